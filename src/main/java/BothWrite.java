@@ -14,10 +14,12 @@ public final class BothWrite {
     private static final int MOST_BYTES = 400;
     private static final int MOST_PROMISES = 8;
     private static final int TABLE_MEN = 2;
-    private static final int TABLE_SLIPS = 36;
+    /** Two men have at most five orders each: to stay, three ways, one help. */
+    private static final int TABLE_SLIPS = 25;
     private static final int MOST_ROUNDS = 200;
     private static final int DUEL_MOVES = 12;
     private static final int DUEL_ORDERS = 4;
+    private static final int LAWS = 3;
     private static final int MILLION = 1000000;
     private static final int EVEN = 500;
     private static final int GOES_ON = 0;
@@ -114,13 +116,12 @@ public final class BothWrite {
     }
 
     public int law(int v) {
-        if (v < 0 || v > 2) {
+        if (v < 0 || v >= LAWS) {
             return OUTSIDE;
         }
         int was = theLaw;
         theLaw = v;
         theTable.forget();
-        theDuels.forget();
         return was;
     }
 
@@ -272,7 +273,7 @@ public final class BothWrite {
             return OUTSIDE;
         }
         theDuels.fill(n, theLaw);
-        return theDuels.valueOf(a, b, n);
+        return theDuels.valueOf(a, b, n, theLaw);
     }
 
     public int lot(int a, int b, int n, int side, int order) {
@@ -310,23 +311,10 @@ public final class BothWrite {
         if (!hasTable()) {
             return NOT;
         }
-        int many0 = theSlips.many(theGame.men, 0);
-        int many1 = theSlips.many(theGame.men, 1);
-        int found = 0;
-        for (int p = 0; p < many0; p++) {
-            int a = theSlips.pick(theGame.men, 0, p);
-            for (int q = 0; q < many1; q++) {
-                int b = theSlips.pick(theGame.men, 1, q);
-                theWork.run(theGame.men, a, b, theLaw);
-                if (sameRow(theWork.goal, target)) {
-                    if (found == i) {
-                        return what == 0 ? a : b;
-                    }
-                    found++;
-                }
-            }
-        }
-        return i == NONE ? Math.min(found, MILLION - 1) : NONE;
+        theTable.fill(theGame.men, theLaw);
+        int standing = standingNumber(target);
+        // a table has 625 pairs at most, so what is counted never comes near 999999
+        return i == NONE ? theTable.pairsTo(standing) : theTable.slipOfPairTo(standing, i, what);
     }
 
     public int game(int i, int what) {
@@ -487,12 +475,21 @@ public final class BothWrite {
 
     private static int standing(int[] men, int side) {
         int many = 0;
-        for (int m = 0; m < SIDE_MEN; m++) {
-            if (at(men, slot(side, m)) != NONE) {
+        for (int k = 0; k < men.length; k++) {
+            if (sideOf(k) == side && men[k] != NONE) {
                 many++;
             }
         }
         return many;
+    }
+
+    /** Where all the men stand, as one number: a figure for each, 0 for a fallen one. */
+    private static int standingNumber(int[] men) {
+        int number = 0;
+        for (int k = 0; k < men.length; k++) {
+            number = 10 * number + men[k] - NONE;
+        }
+        return number;
     }
 
     private static int endPay(int how) {
@@ -532,20 +529,9 @@ public final class BothWrite {
         }
     }
 
-    private static boolean sameRow(int[] one, int[] other) {
-        for (int i = 0; i < one.length && i < other.length; i++) {
-            if (one[i] != other[i]) {
-                return false;
-            }
-        }
-        return true;
-    }
-
     /** Fields, ways, homes, and where the men stand at the beginning. */
     private static final class Net {
         int fields;
-        final int[] wayRow = new int[MOST_FIELDS * MOST_WAYS];
-        final int[] wayCount = new int[MOST_FIELDS];
         final int[] waySets = new int[MOST_FIELDS];
         final int[] home = new int[SIDES];
         final int[] start = new int[ALL_MEN];
@@ -557,8 +543,6 @@ public final class BothWrite {
 
         void wipe() {
             fields = 0;
-            fillRow(wayRow, NONE);
-            fillRow(wayCount, 0);
             fillRow(waySets, 0);
             fillRow(home, NONE);
             fillRow(start, NONE);
@@ -567,8 +551,6 @@ public final class BothWrite {
 
         void become(Net other) {
             fields = other.fields;
-            copyRow(other.wayRow, wayRow);
-            copyRow(other.wayCount, wayCount);
             copyRow(other.waySets, waySets);
             copyRow(other.home, home);
             copyRow(other.start, start);
@@ -589,22 +571,31 @@ public final class BothWrite {
             return isSide(side) && m >= 0 && m < at(menOf, side);
         }
 
-        /** How many ways a field has; none where there is no such field. */
-        int manyWays(int f) {
-            return isField(f) ? at(wayCount, f) : 0;
-        }
-
-        /** Where way k of a field leads; NONE: it has no such way. */
-        int wayOf(int f, int k) {
-            return isField(f) && k >= 0 && k < MOST_WAYS ? at(wayRow, MOST_WAYS * f + k) : NONE;
-        }
-
         int waySetOf(int f) {
-            return isField(f) ? at(waySets, f) : 0;
+            return f >= 0 && f < waySets.length ? waySets[f] : 0;
+        }
+
+        int manyWays(int f) {
+            return Integer.bitCount(waySetOf(f));
+        }
+
+        /** Where way k of a field leads, by rising fields; NONE: it has no such way. */
+        int wayOf(int f, int k) {
+            int set = waySetOf(f);
+            int ahead = k;
+            for (int g = 0; g < fields && ahead >= 0; g++) {
+                if ((set >> g & 1) == 1) {
+                    if (ahead == 0) {
+                        return g;
+                    }
+                    ahead--;
+                }
+            }
+            return NONE;
         }
 
         boolean hasWay(int f, int g) {
-            return isField(f) && isField(g) && (at(waySets, f) >> g & 1) == 1;
+            return g >= 0 && g < MOST_FIELDS && (waySetOf(f) >> g & 1) == 1;
         }
 
         boolean mayJoin(int f, int g) {
@@ -612,20 +603,8 @@ public final class BothWrite {
         }
 
         void join(int f, int g) {
-            putWay(f, g);
-            putWay(g, f);
-        }
-
-        /** Ways are kept by rising fields, since orders name them by that number. */
-        private void putWay(int f, int g) {
-            int place = manyWays(f);
-            while (place > 0 && at(wayRow, MOST_WAYS * f + place - 1) > g) {
-                put(wayRow, MOST_WAYS * f + place, at(wayRow, MOST_WAYS * f + place - 1));
-                place--;
-            }
-            put(wayRow, MOST_WAYS * f + place, g);
-            put(wayCount, f, manyWays(f) + 1);
-            put(waySets, f, at(waySets, f) | 1 << g);
+            put(waySets, f, waySetOf(f) | 1 << g);
+            put(waySets, g, waySetOf(g) | 1 << f);
         }
 
         boolean mayPlace(int side, int f) {
@@ -645,19 +624,18 @@ public final class BothWrite {
 
         /** How a game is in which the men stand so: it goes on, won by side 0, by side 1, drawn. */
         int how(int[] men) {
-            boolean first = hasWon(men, 0);
-            boolean second = hasWon(men, 1);
+            boolean first = standsOn(men, 0, home[1]) || standing(men, 1) == 0;
+            boolean second = standsOn(men, 1, home[0]) || standing(men, 0) == 0;
             return first ? (second ? DRAWN : 1) : (second ? 2 : GOES_ON);
         }
 
-        private boolean hasWon(int[] men, int side) {
-            for (int m = 0; m < SIDE_MEN; m++) {
-                int f = at(men, slot(side, m));
-                if (f != NONE && f == at(home, 1 - side)) {
+        private boolean standsOn(int[] men, int side, int f) {
+            for (int k = 0; k < men.length; k++) {
+                if (sideOf(k) == side && men[k] != NONE && men[k] == f) {
                     return true;
                 }
             }
-            return standing(men, 1 - side) == 0;
+            return false;
         }
 
         int pay(int[] men) {
@@ -907,8 +885,8 @@ public final class BothWrite {
     /** Works a pair of slips: who goes, who is thrown back, who falls. */
     private static final class Work {
         private static final int STAYS_SO = 0, THROWN_BACK = 1, FALLS = 2;
-        /** Each look but the last throws back a man that goes or fells one, so there are far fewer. */
-        private static final int ENOUGH_LOOKS = 100;
+        /** Each look but the last throws back a man that goes or fells one: a man twice at the most. */
+        private static final int ENOUGH_LOOKS = 2 * ALL_MEN + 1;
 
         /** Where each man goes; where all stand behind the run; NONE: fallen. */
         final int[] goal = new int[ALL_MEN];
@@ -1052,7 +1030,7 @@ public final class BothWrite {
         }
     }
 
-    /** The table of all slips against all, and rounds played on it. */
+    /** The table of all slips against all, what they come to, and rounds played on it. */
     private static final class Table {
         private final Net net;
         private final Slips slips;
@@ -1063,6 +1041,8 @@ public final class BothWrite {
         private final int[] slips0 = new int[TABLE_SLIPS];
         private final int[] slips1 = new int[TABLE_SLIPS];
         private final int[] payRow = new int[TABLE_SLIPS * TABLE_SLIPS];
+        /** The standing numbers that the pairs come to. */
+        private final int[] endRow = new int[TABLE_SLIPS * TABLE_SLIPS];
         /** What each slip came to against all that the other side wrote. */
         private final int[] total0 = new int[TABLE_SLIPS];
         private final int[] total1 = new int[TABLE_SLIPS];
@@ -1083,19 +1063,28 @@ public final class BothWrite {
             if (filled) {
                 return;
             }
-            many0 = Math.min(slips.many(men, 0), TABLE_SLIPS);
-            many1 = Math.min(slips.many(men, 1), TABLE_SLIPS);
-            for (int j = 0; j < many1; j++) {
-                put(slips1, j, slips.pick(men, 1, j));
-            }
+            many0 = list(men, 0, slips0);
+            many1 = list(men, 1, slips1);
             for (int i = 0; i < many0; i++) {
-                put(slips0, i, slips.pick(men, 0, i));
                 for (int j = 0; j < many1; j++) {
                     work.run(men, at(slips0, i), at(slips1, j), law);
-                    put(payRow, TABLE_SLIPS * i + j, net.pay(work.goal));
+                    put(payRow, place(i, j), net.pay(work.goal));
+                    put(endRow, place(i, j), standingNumber(work.goal));
                 }
             }
             filled = true;
+        }
+
+        private int list(int[] men, int side, int[] row) {
+            int many = Math.min(slips.many(men, side), TABLE_SLIPS);
+            for (int i = 0; i < many; i++) {
+                put(row, i, slips.pick(men, side, i));
+            }
+            return many;
+        }
+
+        private static int place(int i, int j) {
+            return TABLE_SLIPS * i + j;
         }
 
         private int many(int side) {
@@ -1115,8 +1104,34 @@ public final class BothWrite {
             return NONE;
         }
 
+        int pairsTo(int standing) {
+            int many = 0;
+            for (int i = 0; i < many0; i++) {
+                for (int j = 0; j < many1; j++) {
+                    many += at(endRow, place(i, j)) == standing ? 1 : 0;
+                }
+            }
+            return many;
+        }
+
+        /** A side's slip of the which-th pair that comes to a standing; NONE: there are not so many. */
+        int slipOfPairTo(int standing, int which, int side) {
+            int ahead = which;
+            for (int i = 0; i < many0 && ahead >= 0; i++) {
+                for (int j = 0; j < many1; j++) {
+                    if (at(endRow, place(i, j)) == standing) {
+                        if (ahead == 0) {
+                            return slipAt(side, side == 0 ? i : j);
+                        }
+                        ahead--;
+                    }
+                }
+            }
+            return NONE;
+        }
+
         private int payOf(int side, int mine, int theirs) {
-            return at(payRow, side == 0 ? TABLE_SLIPS * mine + theirs : TABLE_SLIPS * theirs + mine);
+            return at(payRow, side == 0 ? place(mine, theirs) : place(theirs, mine));
         }
 
         /** Side 0 wants much, side 1 little. */
@@ -1200,44 +1215,45 @@ public final class BothWrite {
         final Lots lots = new Lots();
         private final Net net;
         private final Work work;
-        private final int[] values = new int[(DUEL_MOVES + 1) * MOST_FIELDS * MOST_FIELDS];
+        private final int[] values = new int[LAWS * (DUEL_MOVES + 1) * MOST_FIELDS * MOST_FIELDS];
         private final int[] men = new int[ALL_MEN];
-        /** For how many numbers of moves, from 0 on, the values stand. */
-        private int known;
+        /** By each law: for how many numbers of moves, from 0 on, the values stand. */
+        private final int[] known = new int[LAWS];
 
         Duels(Net net, Work work) {
             this.net = net;
             this.work = work;
+            fillRow(men, NONE);
         }
 
         void forget() {
-            known = 0;
+            fillRow(known, 0);
         }
 
+        /** Works the values out up to n moves to go. */
         void fill(int n, int law) {
-            for (int left = known; left <= n && left <= DUEL_MOVES; left++) {
+            for (int left = Math.max(0, at(known, law)); left <= n && left <= DUEL_MOVES; left++) {
                 for (int a = 0; a < net.fields; a++) {
                     for (int b = 0; b < net.fields; b++) {
                         if (a != b) {
-                            put(values, place(a, b, left), worth(a, b, left, law));
+                            put(values, place(a, b, left, law), worth(a, b, left, law));
                         }
                     }
                 }
-                known = left + 1;
+                put(known, law, left + 1);
             }
         }
 
-        int valueOf(int a, int b, int left) {
-            return at(values, place(a, b, left));
+        int valueOf(int a, int b, int left, int law) {
+            return at(values, place(a, b, left, law));
         }
 
-        private int place(int a, int b, int left) {
-            return (left * MOST_FIELDS + a) * MOST_FIELDS + b;
+        private static int place(int a, int b, int left, int law) {
+            return ((law * (DUEL_MOVES + 1) + left) * MOST_FIELDS + a) * MOST_FIELDS + b;
         }
 
         /** How a duel stands before any move. */
         int howAt(int a, int b) {
-            fillRow(men, NONE);
             men[0] = a;
             men[SIDE_MEN] = b;
             return net.how(men);
@@ -1255,14 +1271,18 @@ public final class BothWrite {
 
         /** Lays out what each pair of orders comes to, by the values with one move less. */
         void layOut(int a, int b, int left, int law) {
-            howAt(a, b);
-            lots.open(1 + net.manyWays(a), 1 + net.manyWays(b));
-            for (int i = 0; i <= net.manyWays(a); i++) {
-                for (int j = 0; j <= net.manyWays(b); j++) {
+            men[0] = a;
+            men[SIDE_MEN] = b;
+            int ways0 = net.manyWays(a);
+            int ways1 = net.manyWays(b);
+            lots.open(1 + ways0, 1 + ways1);
+            for (int i = 0; i <= ways0; i++) {
+                for (int j = 0; j <= ways1; j++) {
                     work.run(men, i, j, law);
-                    int how = net.how(work.goal);
+                    int[] goal = work.goal;
+                    int how = net.how(goal);
                     boolean goesOn = how == GOES_ON;
-                    lots.setPay(i, j, goesOn ? valueOf(work.goal[0], work.goal[SIDE_MEN], left - 1) : endPay(how));
+                    lots.setPay(i, j, goesOn ? valueOf(goal[0], goal[SIDE_MEN], left - 1, law) : endPay(how));
                 }
             }
         }
@@ -1277,6 +1297,7 @@ public final class BothWrite {
         private final int[] chosen1 = new int[DUEL_ORDERS];
         private final long[] weight0 = new long[DUEL_ORDERS];
         private final long[] weight1 = new long[DUEL_ORDERS];
+        /** What is left of the chosen pays without one row and one column. */
         private final long[] left = new long[(DUEL_ORDERS - 1) * (DUEL_ORDERS - 1)];
         private long whole;
         private long worth;
@@ -1294,7 +1315,8 @@ public final class BothWrite {
         }
 
         private long payOf(int i, int j) {
-            return longAt(pay, DUEL_ORDERS * i + j);
+            int place = DUEL_ORDERS * i + j;
+            return place >= 0 && place < pay.length ? pay[place] : 0L;
         }
 
         int value() {
