@@ -1,0 +1,48 @@
+/** Counts the answers that are not the ones due; every test of the project ends by it. */
+final class Due {
+    private final String name;
+    private int asked;
+    private int wrong;
+
+    Due(String name) {
+        this.name = name;
+    }
+
+    void is(String call, long got, long want) {
+        asked++;
+        if (got != want) {
+            wrong++;
+            System.out.println(name + ": " + call + " answered " + got + ", due is " + want);
+        }
+    }
+
+    void end() {
+        System.out.println(name + ": " + asked + " answers, " + wrong + " of them not as due");
+        if (wrong != 0 || asked == 0) {
+            System.exit(1);
+        }
+    }
+
+    /** Feeds a text, up to eight bytes a call; the answer of the last call. */
+    static int feed(BothWrite x, String text) {
+        int answer = 0;
+        for (int from = 0; from < text.length(); from += 8) {
+            int to = Math.min(from + 8, text.length());
+            long bytes = 0;
+            for (int i = from; i < to; i++) {
+                bytes = bytes << 8 | text.charAt(i);
+            }
+            answer = x.feed(to - from, bytes);
+        }
+        return answer;
+    }
+
+    static BothWrite withNet(String text) {
+        BothWrite x = new BothWrite();
+        feed(x, text);
+        if (x.net() < 0) {
+            throw new IllegalArgumentException("a net with a fault: " + text);
+        }
+        return x;
+    }
+}
