@@ -245,7 +245,7 @@ public final class BothWrite {
         theTable.fill(theGame.men, theLaw);
         theTable.playRounds(r);
         // what side 0's lot is worth at its worst is what side 1's best slip leaves of it
-        return theTable.bestTotal(1 - what) / r;
+        return theTable.leadingTotal(1 - what, r) / r;
     }
 
     public int share(int side, int slip, int r) {
@@ -260,7 +260,7 @@ public final class BothWrite {
         }
         theTable.fill(theGame.men, theLaw);
         theTable.playRounds(r);
-        return theTable.timesWritten(side, theTable.find(side, slip));
+        return theTable.timesWritten(side, theTable.find(side, slip), r);
     }
 
     // ---- duels
@@ -1046,8 +1046,13 @@ public final class BothWrite {
         /** What each slip came to against all that the other side wrote. */
         private final int[] total0 = new int[TABLE_SLIPS];
         private final int[] total1 = new int[TABLE_SLIPS];
-        private final int[] times0 = new int[TABLE_SLIPS];
-        private final int[] times1 = new int[TABLE_SLIPS];
+        /** For how many numbers of rounds, from 0 on, the leading slips stand in the rows below. */
+        private int led;
+        /** Behind k rounds: the slip that is best against all till then, which is written next; its total. */
+        private final int[] leading0 = new int[MOST_ROUNDS + 1];
+        private final int[] leading1 = new int[MOST_ROUNDS + 1];
+        private final int[] top0 = new int[MOST_ROUNDS + 1];
+        private final int[] top1 = new int[MOST_ROUNDS + 1];
 
         Table(Net net, Slips slips, Work work) {
             this.net = net;
@@ -1072,6 +1077,9 @@ public final class BothWrite {
                     put(endRow, place(i, j), standingNumber(work.goal));
                 }
             }
+            fillRow(total0, 0);
+            fillRow(total1, 0);
+            led = 0;
             filled = true;
         }
 
@@ -1171,22 +1179,27 @@ public final class BothWrite {
             return best;
         }
 
+        /** Plays on to r rounds from those that were played on this table already. */
         void playRounds(int r) {
-            fillRow(total0, 0);
-            fillRow(total1, 0);
-            fillRow(times0, 0);
-            fillRow(times1, 0);
-            for (int round = 0; round < r; round++) {
+            for (; led <= r && led <= MOST_ROUNDS; led++) {
+                if (led > 0) {
+                    addRound(at(leading0, led - 1), at(leading1, led - 1));
+                }
                 int a = leader(0);
                 int b = leader(1);
-                put(times0, a, at(times0, a) + 1);
-                put(times1, b, at(times1, b) + 1);
-                for (int i = 0; i < many0; i++) {
-                    put(total0, i, at(total0, i) + payOf(0, i, b));
-                }
-                for (int j = 0; j < many1; j++) {
-                    put(total1, j, at(total1, j) + payOf(1, j, a));
-                }
+                put(leading0, led, a);
+                put(leading1, led, b);
+                put(top0, led, at(total0, a));
+                put(top1, led, at(total1, b));
+            }
+        }
+
+        private void addRound(int a, int b) {
+            for (int i = 0; i < many0; i++) {
+                put(total0, i, at(total0, i) + payOf(0, i, b));
+            }
+            for (int j = 0; j < many1; j++) {
+                put(total1, j, at(total1, j) + payOf(1, j, a));
             }
         }
 
@@ -1201,12 +1214,17 @@ public final class BothWrite {
             return best;
         }
 
-        int bestTotal(int side) {
-            return at(side == 0 ? total0 : total1, leader(side));
+        int leadingTotal(int side, int r) {
+            return at(side == 0 ? top0 : top1, r);
         }
 
-        int timesWritten(int side, int i) {
-            return at(side == 0 ? times0 : times1, i);
+        int timesWritten(int side, int slipPlace, int r) {
+            int[] leading = side == 0 ? leading0 : leading1;
+            int times = 0;
+            for (int k = 0; k < r && k < leading.length; k++) {
+                times += leading[k] == slipPlace ? 1 : 0;
+            }
+            return times;
         }
     }
 

@@ -78,6 +78,7 @@ public final class DuelTest {
         DUE.is("both come to 1", x.duel(0, 2, 1), 500);
         x = Due.withNet("fields 4;man 0 1;man 1 2;");
         lots("men without ways", x, 1, 2, 7, 0, 0);
+        lots("men without ways", x, 1, 2, 12, 0, 0);
         DUE.is("men without ways", x.duel(1, 2, 7), 500);
         x = Due.withNet("fields 5;way 1 4;way 0 2;man 0 1;man 1 2;");
         lots("two who race on ways apart", x, 1, 2, 3, 1, 1);
@@ -124,6 +125,14 @@ public final class DuelTest {
         Due.feed(x, "fields 5;way 3 4;home 4 0;");
         x.net();
         DUE.is("duel(3, 2, 9) with homes the other way", x.duel(3, 2, 9), 500);
+        x = line(5);
+        for (int k = 0; k < 9; k++) {
+            x.law(k % 3);
+            for (int n = 12; n > 0; n--) {
+                DUE.is("duel(3, 2, " + n + "), law " + k % 3, x.duel(3, 2, n), 1000);
+            }
+            DUE.is("duel(3, 2, 0), law " + k % 3, x.duel(3, 2, 0), 500);
+        }
         x = Due.withNet("fields 4;way 0 1;way 1 2;way 2 3;");
         for (int law = 0; law < 3; law++) {
             x.law(law);

@@ -165,6 +165,9 @@ public final class MoveTest {
         scene("side 0 is helped", 2, men(1, 2, GONE, 0, -4, 0), men(2, 1, GONE));
         scene("side 1 is helped", 0, men(1, 2, 2), men(4, -5, 4, 0, -1, 0, 2, 1, 1));
         scene("side 1 is helped", 1, men(1, 2, GONE), men(4, -5, 4, 0, -1, 0, 2, 1, 1));
+        scene("both are helped", 0, men(1, 2, 2, 0, -4, 0), men(2, 1, 1, 4, -4, 4));
+        scene("both are helped", 1, men(1, 2, 1, 0, -4, 0), men(2, 1, 2, 4, -4, 4));
+        scene("both are helped", 2, men(1, 2, GONE, 0, -4, 0), men(2, 1, GONE, 4, -4, 4));
         scene("a third comes", 0, men(1, 2, 1, 4, 1, 4), men(2, 1, 2));
         scene("a third comes", 1, men(1, 2, 1, 4, 1, 4), men(2, 1, 2));
         scene("a third comes", 2, men(1, 2, GONE, 4, 1, 1), men(2, 1, GONE, 6, -1, 6));
@@ -193,6 +196,7 @@ public final class MoveTest {
         DUE.is("slip(1, 10)", x.slip(1, 10), 24);
         DUE.is("slip(1, 20)", x.slip(1, 20), 144);
         DUE.is("slip(1, 59)", x.slip(1, 59), 215);
+        DUE.is("a man that can but stay", Due.withNet("fields 4;man 0 1;").slip(0, -1), 1);
         DUE.is("slip(2, -1)", x.slip(2, -1), UNKNOWN);
         DUE.is("slip(-1, 0)", x.slip(-1, 0), UNKNOWN);
         DUE.is("an order by a way that there is not", x.tried(slipOf(STAY, 2), 0, 0), UNKNOWN);

@@ -12,6 +12,7 @@ public final class NetTest {
         toldTwice();
         misfits();
         firstFault();
+        textAfterText();
         faultLeavesAll();
         netLeavesLawAndSeed();
         homes();
@@ -34,6 +35,7 @@ public final class NetTest {
         DUE.is("slip(1, -1)", x.slip(1, -1), 1);
         DUE.is("slip(1, 0)", x.slip(1, 0), 0);
         DUE.is("tried(0, 0, 0)", x.tried(0, 0, 0), BothWrite.NOT);
+        DUE.is("tried(0, 0, 1)", x.tried(0, 0, 1), UNKNOWN);
         DUE.is("seed(0)", x.seed(0), 0);
         DUE.is("goBack(0)", x.goBack(0), BothWrite.NOT);
         DUE.is("net() of no text", x.net(), 0);
@@ -95,6 +97,8 @@ public final class NetTest {
         good("  fields  002 ; ", 0, 2);
         good("fields 3;way0 1;way 01 002;man1 0;man 0 2;home 2 0;", 2, 3);
         good("fields 4;way 0 1;way 0 2;way 0 3;way 1 2;way 1 3;way 2 3;", 0, 4);
+        good("fields 6;man 0 0;man 0 1;man 1 4;", 3, 6);
+        good("fields 6;man 1 0;man 1 1;man 0 4;man 1 5;", 4, 6);
         good("fields 6;man 0 0;man 0 1;man 0 2;man 1 3;man 1 4;man 1 5;", 6, 6);
     }
 
@@ -105,6 +109,8 @@ public final class NetTest {
         bad("77777;", 1, 0);
         bad("Fields 2;", 1, 0);
         bad("field 2;", 1, 0);
+        bad("xields 2;", 1, 0);
+        bad("fieldz 2;", 1, 0);
         bad("fieldss 2;", 1, 0);
         bad("fie lds 2;", 1, 0);
         bad("way 0 1;", 1, 0);
@@ -123,6 +129,13 @@ public final class NetTest {
         bad("fields 2;;", 1, 9);
         bad("fields 2;5;", 1, 9);
         bad("fields 2;ways 0 1;", 1, 9);
+        bad("fields 2;wayz 0 1;", 1, 9);
+        bad("fields 2;away 0 1;", 1, 9);
+        bad("fields 2;wway 0 1;", 1, 9);
+        bad("fields 2;way`0 1;", 1, 12);
+        bad("fields 2;way{0 1;", 1, 12);
+        bad("fields 2;way/0 1;", 1, 12);
+        bad("fields 2;way:0 1;", 1, 12);
         bad("fields 2;way 0;", 1, 14);
         bad("fields 2;way 01;", 1, 15);
         bad("fields 2;way 0 1", 1, 16);
@@ -143,6 +156,7 @@ public final class NetTest {
         bad("fields 3;way 0 3;", 2, 15);
         bad("fields 3;way 0 0001;", 2, 15);
         bad("fields 3;home 3 0;", 2, 14);
+        bad("fields 3;home 0 3;", 2, 16);
         bad("fields 3;home 0 999;", 2, 16);
         bad("fields 3;man 2 0;", 2, 13);
         bad("fields 3;man 1 3;", 2, 15);
@@ -172,6 +186,30 @@ public final class NetTest {
         bad("fields 3;way 1 1 x", 4, 15);
         bad("fields 3;home 1 1;fields 3;", 4, 16);
         bad("fields 3;home 0 1 home 0 1;", 1, 18);
+    }
+
+    /** Nothing of a text is left for the next one, be it shorter. */
+    private static void textAfterText() {
+        BothWrite x = new BothWrite();
+        oneMore(x, "fields 3;home 2 1;way 0 1", -11, 25);
+        oneMore(x, "fields 2", -11, 8);
+        oneMore(x, "fields 3;home 1 2;", 0, -1);
+        oneMore(x, "fields 33;", -12, 7);
+        oneMore(x, "fields 3", -11, 8);
+        oneMore(x, "fields ", -11, 7);
+        oneMore(x, "fields", -11, 6);
+        oneMore(x, "field", -11, 0);
+        oneMore(x, "fields 3;home 2 0;man 0 1;", 1, -1);
+        oneMore(x, "fields 3;home 0 2;man 1 1;man 0 0;", 2, -1);
+        DUE.is("told(3)", x.told(3), 0);
+        oneMore(x, "", 0, -1);
+        DUE.is("told(0)", x.told(0), 0);
+    }
+
+    private static void oneMore(BothWrite x, String text, int net, int fault) {
+        Due.feed(x, text);
+        DUE.is("net() of '" + text + "' behind another", x.net(), net);
+        DUE.is("fault() of '" + text + "' behind another", x.fault(), fault);
     }
 
     private static void faultLeavesAll() {

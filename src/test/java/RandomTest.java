@@ -32,11 +32,17 @@ public final class RandomTest {
     // ---- texts
 
     private void faults() {
+        BothWrite x = new BothWrite();
+        Oracle o = new Oracle();
         for (int t = 0; t < TEXTS; t++) {
             String text = pick(3) == 0 ? anyWords() : pick(6) == 0 ? netText() : spoilt(netText());
-            BothWrite x = new BothWrite();
-            Oracle o = new Oracle();
+            if (pick(5) == 0 || calls > 350) {
+                x = new BothWrite();
+                o = new Oracle();
+                calls = 0;
+            }
             feedBoth(x, o, text);
+            calls += 22;
             due.is("net() of '" + text + "'", x.net(), o.net());
             due.is("fault() of '" + text + "'", x.fault(), o.fault());
             for (int what = 0; what <= 10; what++) {
@@ -57,6 +63,7 @@ public final class RandomTest {
                 bytes = bytes << 8 | text.charAt(at + i);
             }
             due.is("feed", x.feed(n, bytes), o.feed(n, bytes));
+            calls++;
             at += n;
         }
     }
@@ -146,10 +153,15 @@ public final class RandomTest {
             String text = netText();
             feedBoth(x, o, text);
             due.is("net()", x.net(), o.net());
+            calls = 100;
             // tables and duels are dear for the oracle, so most runs leave some of them out
             int dear = pick(8);
-            calls = text.length() + 1;
             while (calls < CALLS) {
+                if (pick(120) == 0) {
+                    text = pick(3) == 0 ? spoilt(netText()) : netText();
+                    feedBoth(x, o, text);
+                    due.is("net() of '" + text + "'", x.net(), o.net());
+                }
                 ask("run " + r + " about call " + calls + " on '" + text + "': ", x, o, dear);
             }
         }

@@ -17,12 +17,14 @@ public final class ResultTest {
         games();
         logs();
         judging();
+        judgingBySides();
         judgingByLaw();
         judgingEnds();
         judgingFalls();
         promises();
         keptOrders();
         keptByTheFallen();
+        keptBehindTheFirst();
         keptBehindAFallAhead();
         DUE.end();
     }
@@ -190,6 +192,25 @@ public final class ResultTest {
         DUE.is("judge() without a net", x.judge(), 0);
     }
 
+    /** Each slip of a pair is read by its own side's men. */
+    private static void judgingBySides() {
+        BothWrite x = Due.withNet(LINE + "man 0 0;");
+        x.log(1 + 6, -1);
+        DUE.is("judge(), side 0 has two men", x.judge(), GONE);
+        DUE.is("replayed(0, 0)", x.replayed(0, 0), 2);
+        x.log(4, 2);
+        DUE.is("judge(), side 0 helps", x.judge(), GONE);
+        x.log(0, 6);
+        DUE.is("judge(), side 1 has one man", x.judge(), 2);
+        x = Due.withNet(LINE + "man 1 3;");
+        x.log(-1, 2 + 6);
+        DUE.is("judge(), side 1 has two men", x.judge(), GONE);
+        x.log(-1, -1);
+        DUE.is("judge(), both late", x.judge(), GONE);
+        x.log(7, -1);
+        DUE.is("judge(), side 0 has one man", x.judge(), 2);
+    }
+
     private static void judgingByLaw() {
         BothWrite x = Due.withNet(LINE);
         x.log(1, 2);
@@ -304,6 +325,20 @@ public final class ResultTest {
         DUE.is("it fell in that move, but did it", x.kept(0), 1);
         DUE.is("it had fallen", x.kept(1), 2);
         DUE.is("it had fallen", x.kept(2), 2);
+    }
+
+    /** The first man of side 0 falls; the second is the first of its slips then. */
+    private static void keptBehindTheFirst() {
+        BothWrite x = Due.withNet("fields 9;home 7 8;way 0 1;way 0 2;way 0 3;man 0 0;man 0 3;man 1 1;man 1 2;");
+        x.promise(0, 0, 0, 1);
+        x.promise(0, 1, 1, 1);
+        x.promise(0, 1, 1, 0);
+        x.promise(0, 1, 0, 0);
+        x.promise(0, 0, 1, 1);
+        x.move(0, FELLS);
+        DUE.is("man(0, 0)", x.man(0, 0), GONE);
+        x.move(1, 0);
+        keptAll("behind the first", x, new int[] {2, 1, 2, 1, 2});
     }
 
     /** Orders are read by the men that stood then, though another law is on and others stand now. */

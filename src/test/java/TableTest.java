@@ -154,6 +154,8 @@ public final class TableTest {
             DUE.is("answer(0, 0) is home only from 1", x.answer(0, 0) == 3 ? 1 : 0, 0);
             x.drift(1);
         }
+        x = Due.withNet("fields 4;way 0 1;way 1 2;way 1 3;man 0 0;man 1 3;");
+        DUE.is("answer(0, 0)", x.answer(0, 0), 0);
         Due.feed(x, LINE);
         x.net();
         DUE.is("answer(0, 0) behind net()", x.answer(0, 0), 2);
