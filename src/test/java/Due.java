@@ -1,6 +1,9 @@
 /** Counts the answers that are not the ones due; every test of the project ends by it. */
 final class Due {
     private final String name;
+    /** The document's sentence that is tried; empty where a test goes by calls, not by sentences. */
+    private String sentence = "";
+    private int sentences;
     private int asked;
     private int wrong;
 
@@ -8,16 +11,23 @@ final class Due {
         this.name = name;
     }
 
+    /** What is asked from here on tries these words of the document. */
+    void sentence(String words) {
+        sentence = " [" + words + "]";
+        sentences++;
+    }
+
     void is(String call, long got, long want) {
         asked++;
         if (got != want) {
             wrong++;
-            System.out.println(name + ": " + call + " answered " + got + ", due is " + want);
+            System.out.println(name + sentence + ": " + call + " answered " + got + ", due is " + want);
         }
     }
 
     void end() {
-        System.out.println(name + ": " + asked + " answers, " + wrong + " of them not as due");
+        String of = sentences == 0 ? "" : sentences + " sentences, ";
+        System.out.println(name + ": " + of + asked + " answers, " + wrong + " of them not as due");
         if (wrong != 0 || asked == 0) {
             System.exit(1);
         }

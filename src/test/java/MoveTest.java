@@ -29,67 +29,20 @@ public final class MoveTest {
         DUE.end();
     }
 
-    /** The order by which a man goes from a field to another. */
     private static int go(BothWrite x, int from, int to) {
-        return 1 + Integer.bitCount(x.ways(from) & ((1 << to) - 1));
+        return Scene.go(x, from, to);
     }
 
     private static int slipOf(int... orders) {
-        int slip = 0;
-        for (int i = orders.length - 1; i >= 0; i--) {
-            slip = 6 * slip + orders[i];
-        }
-        return slip;
-    }
-
-    /**
-     * Men of both sides on the star, what each does (a field to go to, or -1 to stay, -4, -5 to help),
-     * and where they stand behind it; each man's three numbers stand side by side.
-     */
-    private static void scene(String name, int law, int[][] men0, int[][] men1) {
-        StringBuilder text = new StringBuilder(STAR);
-        for (int[] m : men0) {
-            text.append("man 0 ").append(m[0]).append(';');
-        }
-        for (int[] m : men1) {
-            text.append("man 1 ").append(m[0]).append(';');
-        }
-        BothWrite x = Due.withNet(text.toString());
-        x.law(law);
-        int a = slipBy(x, men0);
-        int b = slipBy(x, men1);
-        for (int m = 0; m < men0.length; m++) {
-            DUE.is(name + ", law " + law + ": tried man 0 " + m, x.tried(a, b, 1 + m), men0[m][2]);
-        }
-        for (int m = 0; m < men1.length; m++) {
-            DUE.is(name + ", law " + law + ": tried man 1 " + m, x.tried(a, b, 4 + m), men1[m][2]);
-        }
-        int how = x.tried(a, b, 0);
-        DUE.is(name + ", law " + law + ": move", x.move(a, b), how);
-        DUE.is(name + ", law " + law + ": told(10)", x.told(10), how);
-        for (int m = 0; m < men0.length; m++) {
-            DUE.is(name + ", law " + law + ": man 0 " + m, x.man(0, m), men0[m][2]);
-        }
-        for (int m = 0; m < men1.length; m++) {
-            DUE.is(name + ", law " + law + ": man 1 " + m, x.man(1, m), men1[m][2]);
-        }
-    }
-
-    private static int slipBy(BothWrite x, int[][] men) {
-        int[] orders = new int[men.length];
-        for (int m = 0; m < men.length; m++) {
-            int does = men[m][1];
-            orders[m] = does == -1 ? STAY : does < -1 ? -does : go(x, men[m][0], does);
-        }
-        return slipOf(orders);
+        return Scene.slipOf(orders);
     }
 
     private static int[][] men(int... numbers) {
-        int[][] men = new int[numbers.length / 3][3];
-        for (int i = 0; i < numbers.length; i++) {
-            men[i / 3][i % 3] = numbers[i];
-        }
-        return men;
+        return Scene.men(numbers);
+    }
+
+    private static void scene(String name, int law, int[][] men0, int[][] men1) {
+        Scene.play(DUE, STAR, name, law, men0, men1);
     }
 
     private static void inAllLaws(String name, int[][] men0, int[][] men1) {
