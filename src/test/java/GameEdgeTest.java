@@ -2,8 +2,8 @@ import java.util.ArrayList;
 import java.util.List;
 
 /**
- * The document's fourth numbered part and promises 21 to 32, sentence by sentence: slips that can have
- * been written, games and logs of none to sixty pairs, promises, draws, images.
+ * The document's fourth numbered part and promises 5, 7, 8, 21 to 32, sentence by sentence: what is told,
+ * slips that can have been written, games and logs of none to sixty pairs, promises, draws, images.
  */
 public final class GameEdgeTest {
     private static final Due DUE = new Due("GameEdgeTest");
@@ -19,6 +19,9 @@ public final class GameEdgeTest {
     private static final int FELLS = 1 + 6 * HELP1;
 
     public static void main(String[] args) {
+        toldOfNoneAndOfAll();
+        manThatFell();
+        lawThatWas();
         writtenByTries();
         writtenHowMany();
         writtenRising();
@@ -48,6 +51,84 @@ public final class GameEdgeTest {
         askingChangesNothing();
         calls512();
         DUE.end();
+    }
+
+    // ---- what is told
+
+    private static void told(String name, BothWrite x, int... told) {
+        for (int what = 0; what < told.length; what++) {
+            DUE.is("told(" + what + ") " + name, x.told(what), told[what]);
+        }
+    }
+
+    private static void toldOfNoneAndOfAll() {
+        DUE.sentence("told: How many (NONE without FIELDS): none, and all that there can be");
+        BothWrite x = new BothWrite();
+        told("of a new object", x, 0, 0, 0, NONE, NONE, 0, 0, 0, 0, 0, 3);
+        Due.feed(x, " ".repeat(392) + "fields 2");
+        DUE.is("told(8) of a full text", x.told(8), 400);
+        x.net();
+        told("behind a fault without a net", x, 0, 0, 0, NONE, NONE, 0, 0, 0, 0, 0, 3);
+        Due.feed(x, "fields 2;");
+        x.net();
+        told("of the least net", x, 2, 0, 0, 0, 1, 0, 0, 0, 0, 0, 3);
+        x = Due.withNet("fields 9;man 0 0;man 0 1;man 0 2;man 1 3;man 1 4;man 1 8;");
+        x.law(2);
+        x.drift(60);
+        for (int k = 0; k < 60; k++) {
+            x.log(k, NONE);
+        }
+        for (int k = 0; k < 8; k++) {
+            x.promise(1, 2, 5, 59);
+        }
+        Due.feed(x, "x".repeat(400));
+        told("of all that there can be", x, 9, 3, 3, 0, 8, 60, 60, 8, 400, 2, 0);
+        DUE.sentence("told: 10 how THE GAME is (0 goes on, 1, 2 WON by side 0, 1, 3 DRAWN)");
+        int[][] moves = {{0, 0}, {2, 0}, {0, 1}, {2, 1}};
+        for (int how = 0; how < 4; how++) {
+            x = Due.withNet(LINE4);
+            DUE.is("move", x.move(moves[how][0], moves[how][1]), how);
+            DUE.is("told(10)", x.told(10), how);
+        }
+    }
+
+    private static void manThatFell() {
+        DUE.sentence("man: The FIELD of a MAN; NONE: it has fallen; told: MEN ... that have not fallen");
+        BothWrite x = Due.withNet(STAR + "man 0 1;man 0 2;man 1 0;man 1 6;");
+        DUE.is("man(1, 0) on field 0", x.man(1, 0), 0);
+        DUE.is("told(2)", x.told(2), 2);
+        x.move(FELLS, 0);
+        DUE.is("man(1, 0) fallen", x.man(1, 0), NONE);
+        DUE.is("man(0, 0) on field 0", x.man(0, 0), 0);
+        DUE.is("man(1, 1)", x.man(1, 1), 6);
+        DUE.is("told(1)", x.told(1), 2);
+        DUE.is("told(2), one fallen", x.told(2), 1);
+        x.begin();
+        DUE.is("man(1, 0) behind begin()", x.man(1, 0), 0);
+        DUE.is("told(2) behind begin()", x.told(2), 2);
+        x = Due.withNet("fields 9;home 0 1;man 0 8;man 1 7;");
+        DUE.is("man(0, 0) on the last field", x.man(0, 0), 8);
+    }
+
+    private static void lawThatWas() {
+        DUE.sentence("law: LAW becomes v (0 .. 2): what it was");
+        BothWrite x = new BothWrite();
+        int was = 0;
+        for (int v : new int[] {0, 1, 2, 2, 0, 2, 1, 1, 0}) {
+            DUE.is("law(" + v + ")", x.law(v), was);
+            DUE.is("told(9)", x.told(9), v);
+            was = v;
+        }
+        DUE.is("law(1) ahead of a net", x.law(1), 0);
+        Due.feed(x, LINE4);
+        x.net();
+        DUE.is("told(9) behind net()", x.told(9), 1);
+        x.keep(0);
+        x.law(2);
+        x.move(0, 0);
+        x.begin();
+        x.goBack(0);
+        DUE.is("told(9) behind move, begin, goBack", x.told(9), 2);
     }
 
     // ---- written
