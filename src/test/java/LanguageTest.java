@@ -59,7 +59,7 @@ public final class LanguageTest {
 
     public static void main(String[] args) throws Exception {
         LanguageTest test = new LanguageTest();
-        test.read(new File(args[0]));
+        test.read(new File(Due.source(args)));
         for (Element method : test.calls.keySet()) {
             int depth = test.depth(method, new LinkedHashSet<>());
             DUE.is("rule 11: calls that are open at once from " + method + ", eight at most", Math.max(depth, 8), 8);
