@@ -35,10 +35,14 @@ import javax.tools.ToolProvider;
 /** What can be counted of LANGUAGE.md, rule by rule, in the file that is named to it. */
 public final class LanguageTest {
     private static final Due DUE = new Due("LanguageTest");
-    private static final Set<String> FACE = Set.of("feed/2", "net/0", "fault/0", "told/1", "ways/1", "man/2", "law/1",
-        "slip/2", "move/2", "drift/1", "begin/0", "tried/3", "pays/2", "safe/2", "answer/2", "bounds/2", "share/3",
-        "duel/3", "lot/5", "stand/3", "written/2", "game/2", "log/2", "clear/0", "judge/0", "replayed/2", "promise/4",
-        "kept/1", "seed/1", "keep/1", "goBack/1");
+    /** The document's face to the letter: what a method answers, its name, what it takes. */
+    private static final Set<String> FACE = Set.of("<init>()", "int feed(int,long)", "int net()", "int fault()",
+        "int told(int)", "int ways(int)", "int man(int,int)", "int law(int)", "int slip(int,int)", "int move(int,int)",
+        "int drift(int)", "int begin()", "int tried(int,int,int)", "int pays(int,int)", "int safe(int,int)",
+        "int answer(int,int)", "int bounds(int,int)", "int share(int,int,int)", "int duel(int,int,int)",
+        "int lot(int,int,int,int,int)", "int stand(int,int,int)", "int written(int,int)", "int game(int,int)",
+        "int log(int,int)", "int clear()", "int judge()", "int replayed(int,int)", "int promise(int,int,int,int)",
+        "int kept(int)", "int seed(int)", "int keep(int)", "int goBack(int)");
     private static final Set<String> CONSTANTS = Set.of("NONE", "UNKNOWN", "OUTSIDE", "NOT", "FULL");
     private static final Set<Kind> NOT_AT_ALL = Set.of(Kind.THROW, Kind.TRY, Kind.CATCH, Kind.SYNCHRONIZED, Kind.ASSERT,
         Kind.LAMBDA_EXPRESSION, Kind.MEMBER_REFERENCE, Kind.PACKAGE);
@@ -53,6 +57,7 @@ public final class LanguageTest {
     private final Map<Element, Set<Element>> calls = new LinkedHashMap<>();
     private final List<String> faults = new ArrayList<>();
     private final Set<String> face = new TreeSet<>();
+    private final Set<String> faceNames = new TreeSet<>();
     private final Set<String> constants = new TreeSet<>();
     private final Set<String> inside = new TreeSet<>();
     private int classes;
@@ -67,8 +72,8 @@ public final class LanguageTest {
         DUE.is("rule 11: some twelve classes at most", Math.max(test.classes, 13), 13);
         DUE.is("rule 1: the face is " + test.face, test.face.equals(new TreeSet<>(FACE)) ? 1 : 0, 1);
         DUE.is("rule 1: the constants are " + test.constants, test.constants.equals(new TreeSet<>(CONSTANTS)) ? 1 : 0, 1);
-        for (String name : test.face) {
-            DUE.is("rule 1: one more method is called " + name, test.inside.contains(name.split("/")[0]) ? 1 : 0, 0);
+        for (String name : test.faceNames) {
+            DUE.is("rule 1: one more method is called " + name, test.inside.contains(name) ? 1 : 0, 0);
         }
         for (String fault : test.faults) {
             DUE.is(fault, 1, 0);
@@ -197,11 +202,11 @@ public final class LanguageTest {
             Set<Modifier> flags = tree.getModifiers().getFlags();
             String name = tree.getName().toString();
             boolean top = getCurrentPath().getParentPath().getParentPath().getLeaf() == unit;
+            boolean isNew = name.equals("<init>");
             if (top && flags.contains(Modifier.PUBLIC)) {
-                if (!name.equals("<init>")) {
-                    face.add(name + "/" + tree.getParameters().size());
-                }
-            } else {
+                face.add(signature(tree, flags));
+                faceNames.add(name);
+            } else if (!isNew) {
                 inside.add(name);
             }
             if (top && !flags.contains(Modifier.PUBLIC) && !flags.contains(Modifier.PRIVATE)) {
@@ -214,6 +219,19 @@ public final class LanguageTest {
                 fault(11, name + " has " + tree.getParameters().size() + " parameters, " + lines(tree) + " lines");
             }
             return super.visitMethod(tree, none);
+        }
+
+        /** As the document writes it, without the names of what it takes, and without public. */
+        private String signature(MethodTree tree, Set<Modifier> flags) {
+            StringBuilder text = new StringBuilder();
+            for (Modifier flag : flags) {
+                text.append(flag == Modifier.PUBLIC ? "" : flag + " ");
+            }
+            text.append(tree.getReturnType() == null ? "" : tree.getReturnType() + " ").append(tree.getName()).append('(');
+            for (VariableTree taken : tree.getParameters()) {
+                text.append(text.charAt(text.length() - 1) == '(' ? "" : ",").append(taken.getType());
+            }
+            return text.append(')').toString();
         }
 
         @Override
