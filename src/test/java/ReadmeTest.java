@@ -207,9 +207,6 @@ public final class ReadmeTest {
             String call = method.getName() + "/" + method.getParameterCount();
             DUE.is("a row for " + call, rows.contains(call) ? 1 : 0, 1);
         }
-        for (Class<?> inside : BothWrite.class.getDeclaredClasses()) {
-            namesInARow(inside.getSimpleName());
-        }
         try (var files = Files.list(root.resolve("src/test/java"))) {
             for (Path file : files.toList()) {
                 namesInARow(file.getFileName().toString().replace(".java", ""));
